@@ -42,8 +42,9 @@ public final class PageBail {
 
     public int put(int number, int sum, int surety)
             throws IllegalArgumentException, IllegalStateException {
-        if (!isCase(number) || !isIn(sum, 1, GREATEST_SUM) || !isIn(surety, 0, LAST_SURETY)) {
-            throw new IllegalArgumentException("case, sum or surety out of range");
+        requireCase(number);
+        if (!isIn(sum, 1, GREATEST_SUM) || !isIn(surety, 0, LAST_SURETY)) {
+            throw new IllegalArgumentException("sum or surety out of range");
         }
         if (bailRow.find(number) != null || bailRow.count() >= MOST_RECORDS) {
             throw new IllegalStateException("the case has a record, or the register is full");
@@ -58,9 +59,7 @@ public final class PageBail {
     }
 
     public int payBack(int number) throws IllegalArgumentException, IllegalStateException {
-        if (!isCase(number)) {
-            throw new IllegalArgumentException("case out of range");
-        }
+        requireCase(number);
         Bail bail = bailRow.find(number);
         if (bail == null || bail.hasForfeitDay()) {
             throw new IllegalStateException("no record of the case, or it is forfeited");
@@ -71,9 +70,7 @@ public final class PageBail {
     }
 
     public void forfeit(int number) throws IllegalArgumentException, IllegalStateException {
-        if (!isCase(number)) {
-            throw new IllegalArgumentException("case out of range");
-        }
+        requireCase(number);
         Bail bail = bailRow.find(number);
         if (bail == null || bail.hasForfeitDay()) {
             throw new IllegalStateException("no record of the case, or it is forfeited");
@@ -82,9 +79,7 @@ public final class PageBail {
     }
 
     public int undo(int number) throws IllegalArgumentException, IllegalStateException {
-        if (!isCase(number)) {
-            throw new IllegalArgumentException("case out of range");
-        }
+        requireCase(number);
         Bail bail = bailRow.find(number);
         if (bail == null || !bail.hasForfeitDay()) {
             throw new IllegalStateException("no record of the case, or it is not forfeited");
@@ -119,17 +114,13 @@ public final class PageBail {
     }
 
     public int sum(int number) throws IllegalArgumentException {
-        if (!isCase(number)) {
-            throw new IllegalArgumentException("case out of range");
-        }
+        requireCase(number);
         Bail bail = bailRow.find(number);
         return bail == null ? 0 : bail.sum;
     }
 
     public boolean isForfeited(int number) throws IllegalArgumentException {
-        if (!isCase(number)) {
-            throw new IllegalArgumentException("case out of range");
-        }
+        requireCase(number);
         Bail bail = bailRow.find(number);
         return bail != null && bail.hasForfeitDay();
     }
@@ -190,9 +181,7 @@ public final class PageBail {
     }
 
     public int pageOf(int number) throws IllegalArgumentException {
-        if (!isCase(number)) {
-            throw new IllegalArgumentException("case out of range");
-        }
+        requireCase(number);
         return pageRow.pageWith(bailRow.placeOf(number));
     }
 
@@ -238,8 +227,10 @@ public final class PageBail {
         return value >= least && value <= most;
     }
 
-    private static boolean isCase(int number) {
-        return isIn(number, 0, GREATEST_CASE);
+    private static void requireCase(int number) {
+        if (!isIn(number, 0, GREATEST_CASE)) {
+            throw new IllegalArgumentException("case out of range");
+        }
     }
 
     /**
