@@ -1,12 +1,22 @@
 import java.util.Objects;
 
-/** Counts the answers that are due, and prints those that are not. */
+/** Counts the answers that are due, and prints those that are not, with the sentence they break. */
 final class Check {
     interface Call {
         Object answer();
     }
 
+    /** Makes a new object, each time in the same state. */
+    interface Maker {
+        PageBail make();
+    }
+
+    interface Act {
+        Object on(PageBail x);
+    }
+
     private final String name;
+    private String sentence = "";
     private int passed;
     private int failed;
 
@@ -14,32 +24,50 @@ final class Check {
         this.name = name;
     }
 
+    /** What is checked from here on holds this sentence of this part of the document. */
+    void holds(String part, String words) {
+        sentence = part + ", \"" + words + "\": ";
+    }
+
     void due(String what, Object want, Object got) {
         if (Objects.equals(want, got)) {
             passed++;
         } else {
             failed++;
-            System.out.println(name + ": " + what + " answered " + got + ", due is " + want);
+            System.out.println(name + ": " + sentence + what + " answered " + got + ", due is " + want);
         }
     }
 
-    /** The call has to throw just this class (no subclass of it), and to change nothing. */
-    void refused(String what, Class<?> want, PageBail x, Call call) {
-        String before = Look.whole(x);
+    void pages(String what, String want, PageBail x) {
+        due("the pages: " + what, want, Look.pages(x));
+    }
+
+    void throwsOnly(String what, Class<?> want, Call call) {
         due(what, want, thrownBy(call));
-        due("the state behind " + what, before, Look.whole(x));
     }
 
-    void illegalArgument(String what, PageBail x, Call call) {
-        refused(what, IllegalArgumentException.class, x, call);
+    /**
+     * Of two objects in the same state one gets the call: it throws just this class (no subclass of
+     * it), and both answer the same from then on. Two new ones for each call, as an object has only
+     * 512 calls and to look at all of it takes many.
+     */
+    void refused(String what, Class<?> want, Maker maker, Act act) {
+        PageBail called = maker.make();
+        PageBail spared = maker.make();
+        throwsOnly(what, want, () -> act.on(called));
+        due("all behind " + what, Look.all(spared), Look.all(called));
     }
 
-    void illegalState(String what, PageBail x, Call call) {
-        refused(what, IllegalStateException.class, x, call);
+    void illegalArgument(String what, Maker maker, Act act) {
+        refused(what, IllegalArgumentException.class, maker, act);
     }
 
-    void outOfBounds(String what, PageBail x, Call call) {
-        refused(what, IndexOutOfBoundsException.class, x, call);
+    void illegalState(String what, Maker maker, Act act) {
+        refused(what, IllegalStateException.class, maker, act);
+    }
+
+    void outOfBounds(String what, Maker maker, Act act) {
+        refused(what, IndexOutOfBoundsException.class, maker, act);
     }
 
     static Object thrownBy(Call call) {

@@ -1,471 +1,543 @@
 /** Promises 1 to 14: a new object and the records. */
 public final class RecordsTest {
-    private static final int[] NO_CASES = {-1, 1000, Integer.MIN_VALUE, Integer.MAX_VALUE};
-
     private static final Check check = new Check("RecordsTest");
 
     public static void main(String[] args) {
-        promise1NewObject();
-        promise2Put();
-        promise2PutRefuses();
-        promise2PutRefusesMoreThan80();
-        promise2PutSplits();
-        promise3PayBack();
-        promise3PayBackRefuses();
-        promise3PayBackBorrowsAndJoins();
-        promise3PayBackOnPagesOfOne();
-        promise4Forfeit();
-        promise5Undo();
-        promise6Amnesty();
-        promise6AmnestyRefuses();
-        promise6AmnestyTakesByRisingCases();
-        promises7To12Questions();
-        promise13Pass();
-        promise13PassRefuses();
-        promise13PassTakesDayByDay();
+        promise1NoRecordsAndDay0();
+        promise2Number();
+        promise2Sum();
+        promise2Surety();
+        promise2ReturnsThePages();
+        promise2ThereIsARecord();
+        promise2ThereAre80();
+        promise3Number();
+        promise3ReturnsItsSum();
+        promise3NoRecordOrForfeited();
+        promise4Number();
+        promise4ForfeitsToday();
+        promise4NoRecordOrForfeited();
+        promise5Number();
+        promise5ReturnsTheDays();
+        promise5NoRecordOrNotForfeited();
+        promise6Sum();
+        promise6Day();
+        promise6ReturnsHowMany();
+        promise7Records();
+        promise8Sum();
+        promise8ZeroIfNone();
+        promise9IsForfeited();
+        promise9FalseIfNone();
+        promise10Surety();
+        promise10AllRecordsOfASurety();
+        promise11Kept();
+        promise12PaidBack();
+        promise13Days();
+        promise13ReturnsHowMany();
+        promise13NotAbove5000();
         promise14Today();
         check.end();
     }
 
-    private static void promise1NewObject() {
-        PageBail x = new PageBail();
-        check.due("a new object", "0 0 0 0 0 0 0 0 0 0 records 0, kept 0, paid back 0, today 0,"
-                + " sweeping -1", Look.whole(x));
-        check.due("pages()", 0, x.pages());
-        for (int reader = 0; reader <= 3; reader++) {
-            check.due("walk(" + reader + ")", PageBail.NONE, x.walk(reader));
+    private static void promise1NoRecordsAndDay0() {
+        check.holds("Promise 1", "No records; today is 0.");
+        StringBuilder held = new StringBuilder();
+        for (int surety = 0; surety <= 9; surety++) {
+            held.append(", held by ").append(surety).append(": 0");
         }
-        check.due("sum(0)", 0, x.sum(0));
-        check.due("isForfeited(999)", false, x.isForfeited(999));
-        check.due("pageOf(999)", PageBail.NONE, x.pageOf(999));
-        Look.with(1, 2, 3).pass(3);
-        check.due("records() beside another object", 0, x.records());
-        check.due("today() beside another object", 0, x.today());
+        String due = held + ", records 0, kept 0, paid back 0, today 0, sweeping -1,"
+                + " walk -1, walk -1, walk -1, walk -1, put to day 0: 0";
+        check.due("a new object", due, Look.all(new PageBail()));
+        PageBail x = new PageBail();
+        PageBail other = Look.with(0, 7, 999);
+        other.forfeit(7);
+        other.sweep();
+        other.walk(0);
+        other.pass(3);
+        check.due("a new object beside another one", due, Look.all(x));
+        int found = 0;
+        for (int number = 0; number <= 999; number += 9) {
+            found += new PageBail().pageOf(number) == PageBail.NONE ? 0 : 1;
+        }
+        check.due("cases found in new objects", 0, found);
     }
 
-    private static void promise2Put() {
-        PageBail x = new PageBail();
-        check.due("put(20, 200, 2)", 1, x.put(20, 200, 2));
-        check.due("put(0, 1, 0)", 1, x.put(0, 1, 0));
-        check.due("put(999, 10000, 9)", 1, x.put(999, 10000, 9));
-        check.due("put(21, 300, 2)", 1, x.put(21, 300, 2));
-        check.due("put(22, 1, 2)", 2, x.put(22, 1, 2));
-        check.due("pages", "0 20 | 21 22 999", Look.pages(x));
-        check.due("sum(0)", 1, x.sum(0));
-        check.due("sum(999)", 10000, x.sum(999));
-        check.due("heldBy(2)", 501, x.heldBy(2));
-        check.due("heldBy(9)", 10000, x.heldBy(9));
-        check.due("records()", 5, x.records());
-        check.due("isForfeited(20)", false, x.isForfeited(20));
-        x.payBack(20);
-        check.due("put(20, 7, 7) again", 2, x.put(20, 7, 7));
-        check.due("sum(20)", 7, x.sum(20));
-        check.due("heldBy(7)", 7, x.heldBy(7));
+    private static void promise2Number() {
+        check.holds("Promise 2", "`number`: 0 to 999: the case");
+        for (int number : new int[] {0, 1, 500, 998, 999}) {
+            PageBail x = new PageBail();
+            check.due("put(" + number + ", 70, 7)", 1, x.put(number, 70, 7));
+            check.due("at(0, 0)", number, x.at(0, 0));
+            check.due("sum(" + number + ")", 70, x.sum(number));
+        }
+        for (int number : Look.outside(0, 999)) {
+            check.illegalArgument("put(" + number + ", 1, 1)", () -> Look.laid("1 2 3 4"),
+                    x -> x.put(number, 1, 1));
+        }
     }
 
-    private static void promise2PutRefuses() {
-        PageBail x = Look.with(5, 6, 7, 8);
-        for (int number : NO_CASES) {
-            check.illegalArgument("put(" + number + ", 1, 0)", x, () -> x.put(number, 1, 0));
+    private static void promise2Sum() {
+        check.holds("Promise 2", "`sum`: 1 to 10000");
+        for (int sum : new int[] {1, 2, 9999, 10000}) {
+            PageBail x = new PageBail();
+            check.due("put(7, " + sum + ", 7)", 1, x.put(7, sum, 7));
+            check.due("sum(7)", sum, x.sum(7));
         }
-        for (int sum : new int[] {0, -1, 10001, Integer.MIN_VALUE, Integer.MAX_VALUE}) {
-            check.illegalArgument("put(1, " + sum + ", 0)", x, () -> x.put(1, sum, 0));
+        for (int sum : Look.outside(1, 10000)) {
+            check.illegalArgument("put(7, " + sum + ", 7)", () -> Look.laid("1 2 3 4"),
+                    x -> x.put(7, sum, 7));
         }
-        for (int surety : new int[] {-1, 10, Integer.MIN_VALUE, Integer.MAX_VALUE}) {
-            check.illegalArgument("put(1, 1, " + surety + ")", x, () -> x.put(1, 1, surety));
-        }
-        check.illegalState("put(5, 1, 0)", x, () -> x.put(5, 1, 0));
-        PageBail y = Look.with(5, 6, 7, 8);
-        check.illegalState("put(8, 9, 8) on a full page", y, () -> y.put(8, 9, 8));
-        check.illegalArgument("put(5, 0, 0) of a case put", y, () -> y.put(5, 0, 0));
-        check.illegalArgument("put(5, 1, 10) of a case put", y, () -> y.put(5, 1, 10));
-        y.forfeit(5);
-        check.illegalState("put(5, 1, 0) of a forfeited case", y, () -> y.put(5, 1, 0));
     }
 
-    private static void promise2PutRefusesMoreThan80() {
-        PageBail x = new PageBail();
-        for (int i = 0; i < 79; i++) {
-            x.put(i * 10, 1, 0);
+    private static void promise2Surety() {
+        check.holds("Promise 2", "`surety`: 0 to 9");
+        for (int surety = 0; surety <= 9; surety++) {
+            PageBail x = new PageBail();
+            check.due("put(7, 70, " + surety + ")", 1, x.put(7, 70, surety));
+            check.due("heldBy(" + surety + ")", 70, x.heldBy(surety));
         }
-        check.due("pages(), two on each but for the last", 39, x.pages());
-        check.due("put(791, 1, 0), the 80th", 39, x.put(791, 1, 0));
+        for (int surety : Look.outside(0, 9)) {
+            check.illegalArgument("put(7, 70, " + surety + ")", () -> Look.laid("1 2 3 4"),
+                    x -> x.put(7, 70, surety));
+        }
+    }
+
+    private static void promise2ReturnsThePages() {
+        check.holds("Promise 2", "Returns the number of pages then.");
+        PageBail x = new PageBail();
+        int[] due = {1, 1, 1, 1, 2, 2, 3, 3, 4};
+        for (int i = 0; i < due.length; i++) {
+            check.due("put(" + i + ", 1, 1)", due[i], x.put(i, 1, 1));
+            check.due("pages()", due[i], x.pages());
+        }
+    }
+
+    private static void promise2ThereIsARecord() {
+        check.holds("Promise 2", "if there is a record of the case");
+        Check.Maker four = () -> Look.laid("0 10 20 999");
+        check.illegalState("put(0, 1, 1)", four, x -> x.put(0, 1, 1));
+        check.illegalState("put(999, 1, 1)", four, x -> x.put(999, 1, 1));
+        check.illegalState("put(10, 11, 0), the same once more", four, x -> x.put(10, 11, 0));
+        check.illegalState("put(10, 1, 1), forfeited", () -> forfeited(10), x -> x.put(10, 1, 1));
+        PageBail y = forfeited(10);
+        y.pass(15);
+        check.due("put(10, 1, 1), the other was kept", 1, y.put(10, 1, 1));
+    }
+
+    private static void promise2ThereAre80() {
+        check.holds("Promise 2", "or there are 80");
+        check.illegalState("put(1, 1, 1) of 81, on the first page", Look::full, x -> x.put(1, 1, 1));
+        check.illegalState("put(999, 1, 1) of 81, on the last page", Look::full,
+                x -> x.put(999, 1, 1));
+        check.illegalState("put(790, 1, 1), both apply", Look::full, x -> x.put(790, 1, 1));
+        PageBail x = Look.full();
         check.due("records()", 80, x.records());
-        int pages = x.pages();
-        for (int number : new int[] {1, 795, 999, 0}) {
-            check.due("put(" + number + ", 1, 0) of 81", IllegalStateException.class,
-                    Check.thrownBy(() -> x.put(number, 1, 0)));
-        }
-        check.due("put(1000, 1, 0) of 81", IllegalArgumentException.class,
-                Check.thrownBy(() -> x.put(1000, 1, 0)));
-        check.due("records()", 80, x.records());
-        check.due("pages()", pages, x.pages());
-        check.due("heldBy(0)", 80, x.heldBy(0));
         x.payBack(400);
-        check.due("pages(), two joined", pages - 1, x.pages());
-        check.due("put(401, 1, 0) in the place that is free", pages - 1, x.put(401, 1, 0));
-        check.due("records()", 80, x.records());
+        check.due("put(401, 1, 1), the 80th again", 38, x.put(401, 1, 1));
+        check.throwsOnly("put(402, 1, 1) of 81", IllegalStateException.class,
+                () -> x.put(402, 1, 1));
+        check.due("records() of 80 again", 80, x.records());
     }
 
-    private static void promise2PutSplits() {
-        check.due("split, to the page ahead", "10 20 25 | 30 40",
-                Look.pages(Look.with(10, 20, 30, 40, 25)));
-        check.due("split, to the new page", "10 20 | 30 35 40",
-                Look.pages(Look.with(10, 20, 30, 40, 35)));
-        check.due("split, behind all", "10 20 | 30 40 50",
-                Look.pages(Look.with(10, 20, 30, 40, 50)));
-        check.due("split, ahead of all", "5 10 20 | 30 40",
-                Look.pages(Look.with(10, 20, 30, 40, 5)));
-        check.due("split of a page in between", "10 20 | 30 40 45 | 50 60 | 70 80",
-                Look.pages(Look.with(10, 20, 30, 40, 70, 80, 50, 60, 45)));
-        PageBail x = Look.with(10, 20, 30, 40, 50, 60);
-        check.due("a full last page", "10 20 | 30 40 50 60", Look.pages(x));
-        check.due("put(25) goes to the page whose first case is lower", 2, x.put(25, 1, 0));
-        check.due("pages", "10 20 25 | 30 40 50 60", Look.pages(x));
-        check.due("put(27)", 2, x.put(27, 1, 0));
-        check.due("put(28) splits the page ahead, not the full one behind", 3, x.put(28, 1, 0));
-        check.due("pages", "10 20 | 25 27 28 | 30 40 50 60", Look.pages(x));
-    }
-
-    private static void promise3PayBack() {
-        PageBail x = Look.with(0, 50, 999);
-        check.due("payBack(50)", 51, x.payBack(50));
-        check.due("paidBack()", 51, x.paidBack());
-        check.due("kept()", 0, x.kept());
-        check.due("sum(50)", 0, x.sum(50));
-        check.due("pageOf(50)", PageBail.NONE, x.pageOf(50));
-        check.due("pages", "0 999", Look.pages(x));
-        check.due("payBack(999)", 1000, x.payBack(999));
-        check.due("one record alone stays", "0", Look.pages(x));
-        check.due("payBack(0)", 1, x.payBack(0));
-        check.due("pages()", 0, x.pages());
-        check.due("paidBack()", 1052, x.paidBack());
-        check.due("put(3, 3, 3) without pages", 1, x.put(3, 3, 3));
-    }
-
-    private static void promise3PayBackRefuses() {
-        PageBail x = Look.with(5, 6, 7);
-        for (int number : NO_CASES) {
-            check.illegalArgument("payBack(" + number + ")", x, () -> x.payBack(number));
-        }
-        for (int number : new int[] {0, 4, 8, 999}) {
-            check.illegalState("payBack(" + number + ")", x, () -> x.payBack(number));
-        }
-        x.forfeit(6);
-        check.illegalState("payBack(6), forfeited", x, () -> x.payBack(6));
-        x.pass(14);
-        check.illegalState("payBack(6) on the last day", x, () -> x.payBack(6));
-        x.undo(6);
-        check.due("payBack(6), undone", 7, x.payBack(6));
-        check.illegalState("payBack(6) again", x, () -> x.payBack(6));
-    }
-
-    private static void promise3PayBackBorrowsAndJoins() {
-        PageBail x = Look.with(1, 2, 3, 4, 5);
-        check.due("pages", "1 2 | 3 4 5", Look.pages(x));
-        x.payBack(2);
-        check.due("borrows from the next page of 3", "1 3 | 4 5", Look.pages(x));
-        x.payBack(3);
-        check.due("joins the next page of 2", "1 4 5", Look.pages(x));
-
-        x = Look.with(1, 2, 3, 4, 5, 6);
-        x.payBack(1);
-        check.due("borrows from the next page of 4", "2 3 | 4 5 6", Look.pages(x));
-
-        x = Look.with(10, 20, 30, 40, 5);
-        x.payBack(40);
-        check.due("borrows from the page ahead of 3", "5 10 | 20 30", Look.pages(x));
-        x.payBack(30);
-        check.due("joins the page ahead, with none behind", "5 10 20", Look.pages(x));
-
-        x = Look.with(10, 20, 30, 40, 5, 6);
-        check.due("pages", "5 6 10 20 | 30 40", Look.pages(x));
-        x.payBack(30);
-        check.due("borrows from the page ahead of 4", "5 6 10 | 20 40", Look.pages(x));
-
-        x = Look.with(10, 20, 30, 40, 50, 60, 70, 80, 15);
-        check.due("pages", "10 15 20 | 30 40 | 50 60 70 80", Look.pages(x));
-        x.payBack(30);
-        check.due("borrows from the next page first", "10 15 20 | 40 50 | 60 70 80", Look.pages(x));
-
-        x = Look.with(10, 20, 30, 40, 50, 60, 15);
-        check.due("pages", "10 15 20 | 30 40 50 60", Look.pages(x));
-        Look.put(x, 70, 61);
-        Look.payBack(x, 61, 70);
-        check.due("pages", "10 15 20 | 30 40 | 50 60", Look.pages(x));
-        x.payBack(40);
-        check.due("borrows from ahead, with 2 behind", "10 15 | 20 30 | 50 60", Look.pages(x));
-        x.payBack(20);
-        check.due("joins the next page of 2, not the one ahead", "10 15 | 30 50 60", Look.pages(x));
-    }
-
-    private static void promise3PayBackOnPagesOfOne() {
-        PageBail x = Look.with(1, 2, 3, 4, 5);
-        x.sweep();
-        x.step(2);
-        check.due("steps leave a page of one", "1 2 3 4 | 5", Look.pages(x));
-        x.payBack(5);
-        check.due("a page without records is gone, and borrows nothing", "1 2 3 4", Look.pages(x));
-
-        x = Look.with(1, 2, 3, 4, 5);
-        x.sweep();
-        x.step(2);
-        Look.payBack(x, 2, 3);
-        check.due("a page of two beside one of one", "1 4 | 5", Look.pages(x));
-        x.payBack(4);
-        check.due("joins the next page of one", "1 5", Look.pages(x));
-
-        x = twoPagesOfOne();
-        x.payBack(4);
-        check.due("the page behind the one that is gone neither borrows nor joins",
-                "0 1 2 3 | 5", Look.pages(x));
-        x = twoPagesOfOne();
-        x.payBack(5);
-        check.due("nor does the page ahead of it", "0 1 2 3 | 4", Look.pages(x));
-        x = twoPagesOfOne();
-        Look.payBack(x, 1, 2, 3);
-        check.due("joins the next page of one, with another behind", "0 4 | 5", Look.pages(x));
-    }
-
-    /** A put splits the page at which a sweep is, so that the sweep takes from two pages behind. */
-    private static PageBail twoPagesOfOne() {
-        PageBail x = Look.with(1, 2, 3, 4, 5);
-        x.sweep();
-        x.step(2);
-        x.put(0, 1, 0);
-        x.step(1);
-        check.due("two pages of one", "0 1 2 3 | 4 | 5", Look.pages(x));
+    private static PageBail forfeited(int number) {
+        PageBail x = Look.laid("0 10 20 999");
+        x.forfeit(number);
         return x;
     }
 
-    private static void promise4Forfeit() {
-        PageBail x = Look.with(0, 13, 999);
-        x.forfeit(0);
-        x.forfeit(999);
-        check.due("isForfeited(0)", true, x.isForfeited(0));
-        check.due("isForfeited(999)", true, x.isForfeited(999));
-        check.due("isForfeited(13)", false, x.isForfeited(13));
-        check.due("the record stays", "0 13 999", Look.pages(x));
-        check.due("sum(999)", 1000, x.sum(999));
-        check.due("heldBy(9)", 1000, x.heldBy(9));
-        check.due("kept()", 0, x.kept());
-        for (int number : NO_CASES) {
-            check.illegalArgument("forfeit(" + number + ")", x, () -> forfeit(x, number));
+    private static void promise3Number() {
+        check.holds("Promise 3", "`number`: 0 to 999: the case");
+        PageBail x = Look.with(0, 999);
+        check.due("payBack(0)", 1, x.payBack(0));
+        check.due("payBack(999)", 1000, x.payBack(999));
+        for (int number : Look.outside(0, 999)) {
+            check.illegalArgument("payBack(" + number + ")", () -> Look.with(0, 1, 999),
+                    y -> y.payBack(number));
         }
-        for (int number : new int[] {1, 12, 998}) {
-            check.illegalState("forfeit(" + number + ")", x, () -> forfeit(x, number));
-        }
-        x.pass(3);
-        check.illegalState("forfeit(0) again", x, () -> forfeit(x, 0));
-        check.due("the day of the first forfeit stands", 3, x.undo(0));
-        x.forfeit(0);
-        x.pass(11);
-        check.due("isForfeited(999) on the last day", true, x.isForfeited(999));
-        check.due("999 goes a day later", 1, x.pass(1));
-        check.due("isForfeited(999), gone", false, x.isForfeited(999));
-        check.due("0 has a term of its own", 0, x.pass(2));
-        check.due("undo(0)", 14, x.undo(0));
-        x.put(999, 5, 5);
-        check.due("a new record of the case is not forfeited", false, x.isForfeited(999));
     }
 
-    private static Object forfeit(PageBail x, int number) {
-        x.forfeit(number);
-        return null;
-    }
-
-    private static void promise5Undo() {
-        PageBail x = Look.with(0, 13, 999);
-        x.pass(5);
-        x.forfeit(0);
-        check.due("undo(0) on the same day", 0, x.undo(0));
-        check.due("isForfeited(0)", false, x.isForfeited(0));
-        check.illegalState("undo(0) again", x, () -> x.undo(0));
-        x.forfeit(999);
-        x.pass(1);
-        check.due("undo(999) a day later", 1, x.undo(999));
-        x.forfeit(999);
-        x.forfeit(13);
-        x.pass(14);
-        check.due("undo(999) on the last day", 14, x.undo(999));
-        check.due("13 is kept, 999 is not", 1, x.pass(1));
-        check.due("pages", "0 999", Look.pages(x));
-        check.illegalState("undo(13) a day too late", x, () -> x.undo(13));
-        check.illegalState("undo(1)", x, () -> x.undo(1));
-        for (int number : NO_CASES) {
-            check.illegalArgument("undo(" + number + ")", x, () -> x.undo(number));
-        }
-        x.pass(100);
-        check.due("an undone record stays", 2, x.records());
-        check.due("kept()", 14, x.kept());
-        check.due("payBack(999), undone", 1000, x.payBack(999));
-    }
-
-    private static void promise6Amnesty() {
-        PageBail x = new PageBail();
-        x.put(1, 100, 1);
-        x.put(2, 101, 1);
-        x.put(3, 1, 1);
-        x.forfeit(3);
-        x.pass(1);
-        x.put(4, 99, 2);
-        check.due("amnesty(99, 0)", 0, x.amnesty(99, 0));
-        check.due("amnesty(100, 0)", 1, x.amnesty(100, 0));
-        check.due("pages", "2 3 4", Look.pages(x));
-        check.due("paidBack()", 100, x.paidBack());
-        check.due("amnesty(98, 1)", 0, x.amnesty(98, 1));
-        check.due("amnesty(10000, 1)", 2, x.amnesty(10000, 1));
-        check.due("a forfeited record stays", "3", Look.pages(x));
-        check.due("paidBack()", 300, x.paidBack());
-        check.due("heldBy(1)", 1, x.heldBy(1));
-        x.undo(3);
-        check.due("amnesty(1, 0)", 1, x.amnesty(1, 0));
-        check.due("pages()", 0, x.pages());
-        check.due("amnesty(1, 0) without records", 0, x.amnesty(1, 0));
-        check.due("kept()", 0, x.kept());
-    }
-
-    private static void promise6AmnestyRefuses() {
-        PageBail x = Look.with(1, 2, 3);
-        x.pass(2);
-        for (int sum : new int[] {0, -1, 10001, Integer.MIN_VALUE, Integer.MAX_VALUE}) {
-            check.illegalArgument("amnesty(" + sum + ", 0)", x, () -> x.amnesty(sum, 0));
-        }
-        for (int day : new int[] {-1, 3, Integer.MIN_VALUE, Integer.MAX_VALUE}) {
-            check.illegalArgument("amnesty(10000, " + day + ")", x, () -> x.amnesty(10000, day));
-        }
-        check.due("amnesty(10000, 2)", 3, x.amnesty(10000, 2));
-    }
-
-    /** Pages "1 2 | 3 4 | 5 6 7": to take 1 and then 4 leaves others than to take 4 and then 1. */
-    private static PageBail whereTheOrderCounts() {
+    private static void promise3ReturnsItsSum() {
+        check.holds("Promise 3", "Returns its sum.");
         PageBail x = new PageBail();
         x.put(1, 1, 1);
-        Look.put(x, 2, 3);
-        x.put(4, 1, 4);
-        Look.put(x, 5, 6, 7);
-        check.due("pages", "1 2 | 3 4 | 5 6 7", Look.pages(x));
+        x.put(2, 10000, 2);
+        check.due("payBack(2), the greatest sum", 10000, x.payBack(2));
+        check.due("payBack(1), the least sum, the last record", 1, x.payBack(1));
+    }
+
+    private static void promise3NoRecordOrForfeited() {
+        check.holds("Promise 3", "if there is no record of the case, or it is forfeited");
+        check.illegalState("payBack(0) without records", PageBail::new, x -> x.payBack(0));
+        for (int number : new int[] {1, 9, 11, 998}) {
+            check.illegalState("payBack(" + number + ")", () -> Look.laid("0 10 20 999"),
+                    x -> x.payBack(number));
+        }
+        for (int number : new int[] {0, 999}) {
+            check.illegalState("payBack(" + number + "), forfeited", () -> forfeited(number),
+                    x -> x.payBack(number));
+        }
+        check.illegalState("payBack(10) twice", () -> {
+            PageBail x = Look.laid("0 10 20 999");
+            x.payBack(10);
+            return x;
+        }, x -> x.payBack(10));
+    }
+
+    private static void promise4Number() {
+        check.holds("Promise 4", "`number`: 0 to 999: the case");
+        PageBail x = Look.with(0, 500, 999);
+        Look.forfeit(x, 0, 999);
+        check.due("isForfeited(0)", true, x.isForfeited(0));
+        check.due("isForfeited(500)", false, x.isForfeited(500));
+        check.due("isForfeited(999)", true, x.isForfeited(999));
+        for (int number : Look.outside(0, 999)) {
+            check.illegalArgument("forfeit(" + number + ")", () -> Look.with(0, 1, 999),
+                    y -> Look.forfeit(y, number));
+        }
+    }
+
+    private static void promise4ForfeitsToday() {
+        check.holds("Promise 4", "Forfeits a bail today.");
+        PageBail x = Look.laid("1 2 | 3 4 5");
+        x.pass(20);
+        Look.forfeit(x, 1);
+        check.pages("the record stays where it is", "1 2 | 3 4 5", x);
+        check.due("heldBy(1), held yet", 2, x.heldBy(1));
+        check.due("kept(), not yet", 0, x.kept());
+        check.due("records()", 5, x.records());
+        check.due("undo(1), from today on", 0, x.undo(1));
+    }
+
+    private static void promise4NoRecordOrForfeited() {
+        check.holds("Promise 4", "if there is no record of the case, or it is forfeited");
+        check.illegalState("forfeit(0) without records", PageBail::new, x -> Look.forfeit(x, 0));
+        for (int number : new int[] {1, 998}) {
+            check.illegalState("forfeit(" + number + ")", () -> Look.laid("0 10 20 999"),
+                    x -> Look.forfeit(x, number));
+        }
+        check.illegalState("forfeit(10) twice a day", () -> forfeited(10),
+                x -> Look.forfeit(x, 10));
+        check.illegalState("forfeit(10) on its last day", () -> {
+            PageBail x = forfeited(10);
+            x.pass(14);
+            return x;
+        }, x -> Look.forfeit(x, 10));
+        PageBail y = forfeited(10);
+        y.undo(10);
+        check.due("forfeit(10), undone", "", Look.forfeit(y, 10));
+        check.due("isForfeited(10)", true, y.isForfeited(10));
+    }
+
+    private static void promise5Number() {
+        check.holds("Promise 5", "`number`: 0 to 999: the case");
+        PageBail x = Look.with(0, 500, 999);
+        Look.forfeit(x, 0, 500, 999);
+        check.due("undo(0)", 0, x.undo(0));
+        check.due("undo(999)", 0, x.undo(999));
+        check.due("isForfeited(0)", false, x.isForfeited(0));
+        check.due("isForfeited(500)", true, x.isForfeited(500));
+        check.due("isForfeited(999)", false, x.isForfeited(999));
+        for (int number : Look.outside(0, 999)) {
+            check.illegalArgument("undo(" + number + ")", () -> {
+                PageBail y = Look.with(0, 1, 999);
+                Look.forfeit(y, 0, 1, 999);
+                return y;
+            }, y -> y.undo(number));
+        }
+    }
+
+    private static void promise5ReturnsTheDays() {
+        check.holds("Promise 5", "Returns for how many days it was forfeited.");
+        PageBail x = Look.with(7);
+        for (int days : new int[] {1, 14, 13, 2}) {
+            x.forfeit(7);
+            x.pass(days);
+            check.due("undo(7) behind " + days + " days", days, x.undo(7));
+        }
+        x.forfeit(7);
+        check.due("undo(7) on the same day", 0, x.undo(7));
+    }
+
+    private static void promise5NoRecordOrNotForfeited() {
+        check.holds("Promise 5", "if there is no record of the case, or it is not forfeited");
+        check.illegalState("undo(0) without records", PageBail::new, x -> x.undo(0));
+        check.illegalState("undo(1)", () -> forfeited(0), x -> x.undo(1));
+        check.illegalState("undo(998)", () -> forfeited(999), x -> x.undo(998));
+        check.illegalState("undo(10), another is forfeited", () -> forfeited(0), x -> x.undo(10));
+        check.illegalState("undo(10) twice", () -> {
+            PageBail x = forfeited(10);
+            x.undo(10);
+            return x;
+        }, x -> x.undo(10));
+        check.illegalState("undo(10), kept", () -> {
+            PageBail x = forfeited(10);
+            x.pass(15);
+            return x;
+        }, x -> x.undo(10));
+    }
+
+    private static void promise6Sum() {
+        check.holds("Promise 6", "`sum`: 1 to 10000: the greatest sum");
+        Check.Maker both = () -> {
+            PageBail x = new PageBail();
+            x.put(1, 1, 1);
+            x.put(2, 10000, 2);
+            return x;
+        };
+        check.due("amnesty(1, 0)", 1, both.make().amnesty(1, 0));
+        check.due("amnesty(9999, 0)", 1, both.make().amnesty(9999, 0));
+        check.due("amnesty(10000, 0)", 2, both.make().amnesty(10000, 0));
+        for (int sum : Look.outside(1, 10000)) {
+            check.illegalArgument("amnesty(" + sum + ", 0)", both, x -> x.amnesty(sum, 0));
+        }
+    }
+
+    /** Case 1 was put on the day 0, case 2 on the day 3, which is today. */
+    private static PageBail onDay3() {
+        PageBail x = Look.with(1);
+        x.pass(3);
+        Look.put(x, 2);
         return x;
     }
 
-    private static void promise6AmnestyTakesByRisingCases() {
-        PageBail x = whereTheOrderCounts();
-        Look.payBack(x, 1, 4);
-        check.due("1 taken, then 4", "2 3 | 5 6 7", Look.pages(x));
-        x = whereTheOrderCounts();
-        Look.payBack(x, 4, 1);
-        check.due("4 taken, then 1", "2 3 5 | 6 7", Look.pages(x));
-        x = whereTheOrderCounts();
-        check.due("amnesty(1, 0)", 2, x.amnesty(1, 0));
-        check.due("amnesty takes 1, then 4", "2 3 | 5 6 7", Look.pages(x));
+    private static void promise6Day() {
+        check.holds("Promise 6", "`day`: 0 to today: the latest day on which records were put");
+        check.due("amnesty(10000, 0)", 1, onDay3().amnesty(10000, 0));
+        check.due("amnesty(10000, 2)", 1, onDay3().amnesty(10000, 2));
+        check.due("amnesty(10000, 3), today", 2, onDay3().amnesty(10000, 3));
+        for (int day : Look.outside(0, 3)) {
+            check.illegalArgument("amnesty(10000, " + day + ")", RecordsTest::onDay3,
+                    x -> x.amnesty(10000, day));
+        }
+        check.illegalArgument("amnesty(10000, 1) on the day 0", () -> Look.with(1),
+                x -> x.amnesty(10000, 1));
+        check.illegalArgument("amnesty(10001, -1)", () -> Look.with(1), x -> x.amnesty(10001, -1));
+        PageBail last = Look.with(1);
+        for (int i = 0; i < 50; i++) {
+            last.pass(100);
+        }
+        check.due("amnesty(10000, 5000) on the last day", 1, last.amnesty(10000, 5000));
     }
 
-    private static void promises7To12Questions() {
-        PageBail x = Look.with(0, 10, 20, 30, 40, 999);
-        x.forfeit(20);
+    private static void promise6ReturnsHowMany() {
+        check.holds("Promise 6", "Returns how many records are taken out.");
+        check.due("amnesty(1, 0) without records", 0, new PageBail().amnesty(1, 0));
+        check.due("amnesty(1, 0) of greater sums", 0, Look.laid("1 2 | 3 4 5").amnesty(1, 0));
+        PageBail x = Look.full();
+        x.forfeit(300);
+        check.due("amnesty(10000, 0) of 79", 79, x.amnesty(10000, 0));
+        check.pages("one is left", "300", x);
+        check.due("paidBack()", 790000, x.paidBack());
+    }
+
+    private static void promise7Records() {
+        check.holds("Promise 7", "Returns the number of records.");
+        PageBail x = Look.laid("1 2 | 3 4 5 6");
         check.due("records()", 6, x.records());
+        Look.forfeit(x, 1, 2);
+        check.due("records(), forfeited ones too", 6, x.records());
+        x.pass(15);
+        check.due("records(), two kept", 4, x.records());
+        x.payBack(4);
+        check.due("records(), one paid back", 3, x.records());
+        x.amnesty(4, 0);
+        check.due("records(), one under an amnesty", 2, x.records());
+        Look.payBack(x, 5, 6);
+        check.due("records(), all gone", 0, x.records());
+        check.due("records() of 80", 80, Look.full().records());
+    }
+
+    private static void promise8Sum() {
+        check.holds("Promise 8", "`number`: 0 to 999");
+        PageBail x = Look.with(0, 500, 999);
         check.due("sum(0)", 1, x.sum(0));
         check.due("sum(999)", 1000, x.sum(999));
-        check.due("sum(998)", 0, x.sum(998));
-        check.due("isForfeited(20)", true, x.isForfeited(20));
-        check.due("isForfeited(10)", false, x.isForfeited(10));
-        check.due("isForfeited(21)", false, x.isForfeited(21));
-        check.due("heldBy(0), a forfeited one too", 105, x.heldBy(0));
-        check.due("heldBy(9)", 1000, x.heldBy(9));
-        check.due("heldBy(1)", 0, x.heldBy(1));
-        for (int number : NO_CASES) {
-            check.illegalArgument("sum(" + number + ")", x, () -> x.sum(number));
-            check.illegalArgument("isForfeited(" + number + ")", x, () -> x.isForfeited(number));
+        for (int number : Look.outside(0, 999)) {
+            check.illegalArgument("sum(" + number + ")", () -> Look.with(0, 1, 999),
+                    y -> y.sum(number));
         }
-        for (int surety : new int[] {-1, 10, Integer.MIN_VALUE, Integer.MAX_VALUE}) {
-            check.illegalArgument("heldBy(" + surety + ")", x, () -> x.heldBy(surety));
-        }
-        PageBail y = Look.with(0, 10, 20, 30);
-        y.forfeit(20);
-        y.forfeit(30);
-        y.payBack(10);
-        check.due("paidBack()", 11, y.paidBack());
-        check.due("kept()", 0, y.kept());
-        y.pass(15);
-        check.due("paidBack()", 11, y.paidBack());
-        check.due("kept()", 52, y.kept());
-        check.due("records()", 1, y.records());
-        check.due("heldBy(0)", 1, y.heldBy(0));
-        y.amnesty(1, 0);
-        check.due("paidBack()", 12, y.paidBack());
-        check.due("records()", 0, y.records());
     }
 
-    private static void promise13Pass() {
-        PageBail x = Look.with(1, 2, 3, 4, 5);
+    private static void promise8ZeroIfNone() {
+        check.holds("Promise 8", "Returns the sum of the record of a case; 0 if there is none.");
+        check.due("sum(0) without records", 0, new PageBail().sum(0));
+        PageBail x = Look.with(1, 500, 998);
+        for (int number : new int[] {0, 2, 499, 501, 997, 999}) {
+            check.due("sum(" + number + ")", 0, x.sum(number));
+        }
+        x.forfeit(500);
+        check.due("sum(500), forfeited", 501, x.sum(500));
+        x.pass(15);
+        check.due("sum(500), kept", 0, x.sum(500));
+        x.payBack(998);
+        check.due("sum(998), paid back", 0, x.sum(998));
+    }
+
+    private static void promise9IsForfeited() {
+        check.holds("Promise 9", "`number`: 0 to 999");
+        PageBail x = Look.with(0, 500, 999);
+        x.forfeit(999);
+        check.due("isForfeited(0)", false, x.isForfeited(0));
+        check.due("isForfeited(999)", true, x.isForfeited(999));
+        for (int number : Look.outside(0, 999)) {
+            check.illegalArgument("isForfeited(" + number + ")", () -> Look.with(0, 1, 999),
+                    y -> y.isForfeited(number));
+        }
+    }
+
+    private static void promise9FalseIfNone() {
+        check.holds("Promise 9", "false if there is none");
+        check.due("isForfeited(0) without records", false, new PageBail().isForfeited(0));
+        PageBail x = Look.with(1, 500, 998);
+        Look.forfeit(x, 1, 500, 998);
+        for (int number : new int[] {0, 2, 499, 501, 997, 999}) {
+            check.due("isForfeited(" + number + ")", false, x.isForfeited(number));
+        }
+        x.pass(14);
+        check.due("isForfeited(500) on the last day", true, x.isForfeited(500));
         x.pass(1);
-        x.forfeit(2);
-        x.pass(4);
-        x.forfeit(5);
-        x.forfeit(1);
-        check.due("pass(10) to the last day of 2", 0, x.pass(10));
-        check.due("pass(1)", 1, x.pass(1));
-        check.due("kept()", 3, x.kept());
-        check.due("pages, borrowed", "1 3 | 4 5", Look.pages(x));
-        x.sweep();
-        x.step(2);
-        check.due("pages", "1 3 4 5", Look.pages(x));
-        check.due("pass(3)", 0, x.pass(3));
-        check.due("pass(100)", 2, x.pass(100));
-        check.due("kept()", 11, x.kept());
-        check.due("paidBack()", 0, x.paidBack());
-        check.due("pages", "3 4", Look.pages(x));
-        check.due("sweeping()", 0, x.sweeping());
-        x.forfeit(3);
-        x.forfeit(4);
-        check.due("pass(15)", 2, x.pass(15));
-        check.due("a sweep is over without its page", PageBail.NONE, x.sweeping());
-        check.due("pass(1) without records", 0, x.pass(1));
+        check.due("isForfeited(500), kept", false, x.isForfeited(500));
+        Look.put(x, 500);
+        check.due("isForfeited(500), put again", false, x.isForfeited(500));
     }
 
-    private static void promise13PassRefuses() {
+    private static void promise10Surety() {
+        check.holds("Promise 10", "`surety`: 0 to 9");
+        PageBail x = Look.with(0, 9, 5);
+        check.due("heldBy(0)", 1, x.heldBy(0));
+        check.due("heldBy(9)", 10, x.heldBy(9));
+        for (int surety : Look.outside(0, 9)) {
+            check.illegalArgument("heldBy(" + surety + ")", () -> Look.with(0, 1, 9),
+                    y -> y.heldBy(surety));
+        }
+    }
+
+    private static void promise10AllRecordsOfASurety() {
+        check.holds("Promise 10", "Returns the sums of all records of a surety.");
+        check.due("heldBy(0) without records", 0, new PageBail().heldBy(0));
+        PageBail x = Look.with(3, 13, 23, 999, 4);
+        check.due("heldBy(3)", 4 + 14 + 24, x.heldBy(3));
+        check.due("heldBy(5) of none", 0, x.heldBy(5));
+        x.forfeit(13);
+        check.due("heldBy(3), a forfeited one too", 42, x.heldBy(3));
+        x.payBack(3);
+        check.due("heldBy(3), one paid back", 38, x.heldBy(3));
+        x.pass(15);
+        check.due("heldBy(3), one kept", 24, x.heldBy(3));
+        x.amnesty(10000, 0);
+        check.due("heldBy(3), all under an amnesty", 0, x.heldBy(3));
+        PageBail y = new PageBail();
+        for (int number = 0; number < 80; number++) {
+            y.put(number, 10000, 9);
+        }
+        check.due("heldBy(9), all of 80 and the greatest sums", 800000, y.heldBy(9));
+        check.due("heldBy(8)", 0, y.heldBy(8));
+    }
+
+    private static void promise11Kept() {
+        check.holds("Promise 11", "Returns all that was kept.");
         PageBail x = Look.with(1, 2, 3);
-        for (int days : new int[] {0, -1, 101, Integer.MIN_VALUE, Integer.MAX_VALUE}) {
-            check.illegalArgument("pass(" + days + ")", x, () -> x.pass(days));
-        }
-        for (int i = 0; i < 49; i++) {
-            x.pass(100);
-        }
-        x.pass(86);
-        x.forfeit(2);
-        check.illegalState("pass(15) to the day 5001", x, () -> x.pass(15));
-        check.illegalState("pass(100)", x, () -> x.pass(100));
-        check.illegalArgument("pass(101)", x, () -> x.pass(101));
-        check.due("pass(14) to the day 5000", 0, x.pass(14));
-        check.due("today()", 5000, x.today());
-        check.illegalState("pass(1) on the last day", x, () -> x.pass(1));
-        check.illegalArgument("pass(0) on the last day", x, () -> x.pass(0));
-        check.due("undo(2)", 14, x.undo(2));
-        check.due("amnesty(10000, 5000)", 3, x.amnesty(10000, 5000));
+        x.payBack(3);
+        check.due("kept(), one paid back", 0, x.kept());
+        Look.forfeit(x, 1);
+        x.pass(15);
+        check.due("kept(), one kept", 2, x.kept());
+        Look.forfeit(x, 2);
+        x.pass(15);
+        check.due("kept(), another kept", 5, x.kept());
+        x.pass(100);
+        check.due("kept() later", 5, x.kept());
+        check.due("kept() of 80 and the greatest sums", 800000, allKept().kept());
     }
 
-    private static void promise13PassTakesDayByDay() {
-        PageBail x = whereTheOrderCounts();
-        x.forfeit(4);
+    private static PageBail allKept() {
+        PageBail x = Look.full();
+        for (int i = 0; i < 80; i++) {
+            x.forfeit(i * 10);
+        }
+        x.pass(15);
+        return x;
+    }
+
+    private static void promise12PaidBack() {
+        check.holds("Promise 12", "Returns all that was paid back.");
+        PageBail x = Look.with(1, 2, 3, 4);
+        x.payBack(1);
+        check.due("paidBack(), one paid back", 2, x.paidBack());
+        x.forfeit(2);
+        x.pass(15);
+        check.due("paidBack(), one kept", 2, x.paidBack());
+        x.payBack(3);
+        check.due("paidBack(), another paid back", 6, x.paidBack());
+        x.amnesty(10000, 0);
+        check.due("paidBack(), one under an amnesty", 11, x.paidBack());
+        PageBail y = Look.full();
+        y.amnesty(10000, 0);
+        check.due("paidBack() of 80 and the greatest sums", 800000, y.paidBack());
+        check.due("paidBack() of 80 that were kept", 0, allKept().paidBack());
+    }
+
+    private static void promise13Days() {
+        check.holds("Promise 13", "`days`: 1 to 100");
+        for (int days : new int[] {1, 2, 99, 100}) {
+            PageBail x = Look.with(1);
+            check.due("pass(" + days + ")", 0, x.pass(days));
+            check.due("today()", days, x.today());
+        }
+        for (int days : Look.outside(1, 100)) {
+            check.illegalArgument("pass(" + days + ")", RecordsTest::onDay3, x -> x.pass(days));
+        }
+    }
+
+    private static void promise13ReturnsHowMany() {
+        check.holds("Promise 13", "Returns how many records are taken out by that.");
+        check.due("pass(100) without records", 0, new PageBail().pass(100));
+        check.due("pass(100), none forfeited", 0, Look.full().pass(100));
+        PageBail x = Look.laid("1 2 | 3 4 5");
         x.forfeit(1);
-        check.due("pass(15)", 2, x.pass(15));
-        check.due("on one day by rising cases", "2 3 | 5 6 7", Look.pages(x));
-        x = whereTheOrderCounts();
-        x.forfeit(4);
         x.pass(1);
-        x.forfeit(1);
-        check.due("pass(15)", 2, x.pass(15));
-        check.due("on two days the earlier first", "2 3 5 | 6 7", Look.pages(x));
+        Look.forfeit(x, 3, 5);
+        check.due("pass(14) over one term", 1, x.pass(14));
+        check.due("pass(100) over two more", 2, x.pass(100));
+        PageBail y = Look.full();
+        for (int i = 0; i < 80; i++) {
+            y.forfeit(i * 10);
+        }
+        check.due("pass(15) over 80", 80, y.pass(15));
+        check.due("pages()", 0, y.pages());
+    }
+
+    private static PageBail onDay(int day) {
+        PageBail x = Look.with(1, 2, 3);
+        for (int left = day; left > 0; left -= 100) {
+            x.pass(Math.min(left, 100));
+        }
+        return x;
+    }
+
+    private static void promise13NotAbove5000() {
+        check.holds("Promise 13", "Throws `IllegalStateException` if today would be above 5000");
+        for (int days : new int[] {1, 2, 99, 100}) {
+            PageBail x = onDay(5000 - days);
+            check.due("pass(" + days + ") to the day 5000", 0, x.pass(days));
+            check.due("today()", 5000, x.today());
+        }
+        check.illegalState("pass(100) to the day 5001", () -> onDay(4901), x -> x.pass(100));
+        check.illegalState("pass(2) to the day 5001", () -> onDay(4999), x -> x.pass(2));
+        check.illegalState("pass(1) to the day 5001", () -> onDay(5000), x -> x.pass(1));
+        check.illegalState("pass(100) to the day 5100", () -> onDay(5000), x -> x.pass(100));
+        check.illegalArgument("pass(0) on the day 5000", () -> onDay(5000), x -> x.pass(0));
     }
 
     private static void promise14Today() {
+        check.holds("Promise 14", "Returns today.");
         PageBail x = Look.with(1);
-        check.due("today()", 0, x.today());
+        check.due("today() at first", 0, x.today());
         x.pass(1);
         check.due("today()", 1, x.today());
         x.pass(100);
         check.due("today()", 101, x.today());
         Check.thrownBy(() -> x.pass(101));
-        check.due("today() after a refused pass", 101, x.today());
+        check.due("today() behind a refused pass", 101, x.today());
+        check.due("today() at last", 5000, onDay(5000).today());
     }
 }
