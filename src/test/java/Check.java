@@ -29,12 +29,25 @@ final class Check {
         sentence = part + ", \"" + words + "\": ";
     }
 
+    /** One test after the other; what one throws is its own failure, and the next one runs. */
+    void run(Runnable... tests) {
+        for (Runnable test : tests) {
+            try {
+                test.run();
+            } catch (RuntimeException e) {
+                due("a call", "an answer", e.toString());
+            }
+        }
+        end();
+    }
+
     void due(String what, Object want, Object got) {
         if (Objects.equals(want, got)) {
             passed++;
         } else {
             failed++;
-            System.out.println(name + ": " + sentence + what + " answered " + got + ", due is " + want);
+            String where = name + ": " + sentence + what;
+            System.out.println(where + " answered " + got + ", due is " + want);
         }
     }
 

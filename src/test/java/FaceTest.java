@@ -33,7 +33,9 @@ public final class FaceTest {
     public static void main(String[] args) {
         Check check = new Check("FaceTest");
         Class<?> face = PageBail.class;
+        check.holds("Terms", "The constants: `NONE = -1`: There is none.");
         check.due("NONE", -1, PageBail.NONE);
+        check.holds("The public face", "public final class PageBail");
         check.due("the class's modifiers", Modifier.PUBLIC | Modifier.FINAL, face.getModifiers());
         check.due("the methods", new TreeSet<>(java.util.List.of(DUE)), methodsOf(face));
         check.due("the fields", "[NONE]", fieldsOf(face).toString());

@@ -122,7 +122,7 @@ final class Look {
             putOf(x, row, 2, 4);
         }
         if (!pages(x).equals(pages)) {
-            // The last two pages still are one; what splits it goes again, and leaves paidBack at 1.
+            // The last two pages still are one; what splits it goes again, and paidBack is 1 then.
             x.put(999, 1, 9);
             x.payBack(999);
         }
@@ -151,7 +151,7 @@ final class Look {
         return x;
     }
 
-    /** Eighty records, as many as there can be: 0, 10, 20 to 790, on 38 pages of two and one of four. */
+    /** 80 records, as many as there can be: 0, 10, 20 to 790, on 38 pages of two and one of four. */
     static PageBail full() {
         PageBail x = new PageBail();
         for (int i = 0; i < 80; i++) {
@@ -160,7 +160,7 @@ final class Look {
         return x;
     }
 
-    /** Values outside a range: beside it, at the ends of int, and equal to one in it if cut short. */
+    /** Values outside a range: beside it, at the ends of int, and one in it if cut to a short. */
     static int[] outside(int least, int most) {
         int inside = least + 1;
         return new int[] {least - 1, most + 1, Integer.MIN_VALUE, Integer.MAX_VALUE,

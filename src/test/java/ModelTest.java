@@ -8,12 +8,13 @@ public final class ModelTest {
     private static final int RUNS = 6000;
     private static final int CALLS = 512;
 
-    /** How often each call is made; the order is that of the face. */
+    /** How often each call is made, in the face's order; the last row comes to the day 5000. */
     private static final int[][] MIXES = {
         {30, 12, 6, 3, 1, 2, 3, 3, 3, 1, 1, 6, 1, 3, 6, 10, 6, 4, 8, 6, 6},
         {60, 6, 2, 1, 0, 1, 1, 1, 1, 1, 1, 2, 1, 2, 8, 16, 6, 4, 8, 6, 8},
         {25, 30, 2, 1, 0, 1, 1, 1, 1, 1, 1, 2, 1, 2, 8, 16, 6, 6, 12, 8, 6},
         {30, 2, 25, 3, 1, 2, 1, 4, 1, 3, 1, 12, 1, 2, 6, 12, 4, 3, 6, 6, 6},
+        {20, 4, 12, 3, 1, 1, 1, 2, 1, 2, 1, 90, 1, 2, 4, 8, 3, 3, 6, 4, 5},
     };
 
     private final Check check;

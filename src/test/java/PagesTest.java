@@ -3,15 +3,15 @@ public final class PagesTest {
     private static final Check check = new Check("PagesTest");
 
     public static void main(String[] args) {
-        promise15Pages();
-        promise16Size();
-        promise16NoSuchPage();
-        promise17At();
-        promise17NoSuchPage();
-        promise17NoSuchPlace();
-        promise18Number();
-        promise18NoneIfThereIsNone();
-        check.end();
+        check.run(
+                PagesTest::promise15Pages,
+                PagesTest::promise16Size,
+                PagesTest::promise16NoSuchPage,
+                PagesTest::promise17At,
+                PagesTest::promise17NoSuchPage,
+                PagesTest::promise17NoSuchPlace,
+                PagesTest::promise18Number,
+                PagesTest::promise18NoneIfThereIsNone);
     }
 
     /** Three pages: one of three records, one of two, a full one. */

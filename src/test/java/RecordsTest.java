@@ -3,39 +3,39 @@ public final class RecordsTest {
     private static final Check check = new Check("RecordsTest");
 
     public static void main(String[] args) {
-        promise1NoRecordsAndDay0();
-        promise2Number();
-        promise2Sum();
-        promise2Surety();
-        promise2ReturnsThePages();
-        promise2ThereIsARecord();
-        promise2ThereAre80();
-        promise3Number();
-        promise3ReturnsItsSum();
-        promise3NoRecordOrForfeited();
-        promise4Number();
-        promise4ForfeitsToday();
-        promise4NoRecordOrForfeited();
-        promise5Number();
-        promise5ReturnsTheDays();
-        promise5NoRecordOrNotForfeited();
-        promise6Sum();
-        promise6Day();
-        promise6ReturnsHowMany();
-        promise7Records();
-        promise8Sum();
-        promise8ZeroIfNone();
-        promise9IsForfeited();
-        promise9FalseIfNone();
-        promise10Surety();
-        promise10AllRecordsOfASurety();
-        promise11Kept();
-        promise12PaidBack();
-        promise13Days();
-        promise13ReturnsHowMany();
-        promise13NotAbove5000();
-        promise14Today();
-        check.end();
+        check.run(
+                RecordsTest::promise1NoRecordsAndDay0,
+                RecordsTest::promise2Number,
+                RecordsTest::promise2Sum,
+                RecordsTest::promise2Surety,
+                RecordsTest::promise2ReturnsThePages,
+                RecordsTest::promise2ThereIsARecord,
+                RecordsTest::promise2ThereAre80,
+                RecordsTest::promise3Number,
+                RecordsTest::promise3ReturnsItsSum,
+                RecordsTest::promise3NoRecordOrForfeited,
+                RecordsTest::promise4Number,
+                RecordsTest::promise4ForfeitsToday,
+                RecordsTest::promise4NoRecordOrForfeited,
+                RecordsTest::promise5Number,
+                RecordsTest::promise5ReturnsTheDays,
+                RecordsTest::promise5NoRecordOrNotForfeited,
+                RecordsTest::promise6Sum,
+                RecordsTest::promise6Day,
+                RecordsTest::promise6ReturnsHowMany,
+                RecordsTest::promise7Records,
+                RecordsTest::promise8Sum,
+                RecordsTest::promise8ZeroIfNone,
+                RecordsTest::promise9IsForfeited,
+                RecordsTest::promise9FalseIfNone,
+                RecordsTest::promise10Surety,
+                RecordsTest::promise10AllRecordsOfASurety,
+                RecordsTest::promise11Kept,
+                RecordsTest::promise12PaidBack,
+                RecordsTest::promise13Days,
+                RecordsTest::promise13ReturnsHowMany,
+                RecordsTest::promise13NotAbove5000,
+                RecordsTest::promise14Today);
     }
 
     private static void promise1NoRecordsAndDay0() {
@@ -125,7 +125,8 @@ public final class RecordsTest {
 
     private static void promise2ThereAre80() {
         check.holds("Promise 2", "or there are 80");
-        check.illegalState("put(1, 1, 1) of 81, on the first page", Look::full, x -> x.put(1, 1, 1));
+        check.illegalState("put(1, 1, 1) of 81, on the first page", Look::full,
+                x -> x.put(1, 1, 1));
         check.illegalState("put(999, 1, 1) of 81, on the last page", Look::full,
                 x -> x.put(999, 1, 1));
         check.illegalState("put(790, 1, 1), both apply", Look::full, x -> x.put(790, 1, 1));

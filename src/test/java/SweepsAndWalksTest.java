@@ -3,18 +3,18 @@ public final class SweepsAndWalksTest {
     private static final Check check = new Check("SweepsAndWalksTest");
 
     public static void main(String[] args) {
-        promise19Begins();
-        promise19OneGoesOn();
-        promise20Steps();
-        promise20NoMoreWhenItIsOver();
-        promise20ReturnsHowManyItMoves();
-        promise20NoneGoesOn();
-        promise21ThePageAtWhichItIs();
-        promise21NoneIfNoneGoesOn();
-        promise22Reader();
-        promise22TheCaseOfTheRecord();
-        promise22NoneBehindTheLastOne();
-        check.end();
+        check.run(
+                SweepsAndWalksTest::promise19Begins,
+                SweepsAndWalksTest::promise19OneGoesOn,
+                SweepsAndWalksTest::promise20Steps,
+                SweepsAndWalksTest::promise20NoMoreWhenItIsOver,
+                SweepsAndWalksTest::promise20ReturnsHowManyItMoves,
+                SweepsAndWalksTest::promise20NoneGoesOn,
+                SweepsAndWalksTest::promise21ThePageAtWhichItIs,
+                SweepsAndWalksTest::promise21NoneIfNoneGoesOn,
+                SweepsAndWalksTest::promise22Reader,
+                SweepsAndWalksTest::promise22TheCaseOfTheRecord,
+                SweepsAndWalksTest::promise22NoneBehindTheLastOne);
     }
 
     private static PageBail sweptFrom(String pages) {

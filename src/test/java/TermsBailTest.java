@@ -3,21 +3,21 @@ public final class TermsBailTest {
     private static final Check check = new Check("TermsBailTest");
 
     public static void main(String[] args) {
-        paidBackWhenTakenOut();
-        undoneOnTheDayDPlus14AndEarlier();
-        theLastDayOfTheDay0();
-        keptWhenALaterDayBegins();
-        keptWhateverDaysPassAtOnce();
-        ofSeveralByRisingCases();
-        ofSeveralDaysTheEarlierFirst();
-        eachForfeitHasItsOwnTerm();
-        aForfeitedOneCannotBePaidBack();
-        anAmnestySparesForfeited();
-        anAmnestyUpToTheSum();
-        anAmnestyUpToTheDay();
-        anAmnestyPaysBack();
-        anAmnestyByRisingCases();
-        check.end();
+        check.run(
+                TermsBailTest::paidBackWhenTakenOut,
+                TermsBailTest::undoneOnTheDayDPlus14AndEarlier,
+                TermsBailTest::theLastDayOfTheDay0,
+                TermsBailTest::keptWhenALaterDayBegins,
+                TermsBailTest::keptWhateverDaysPassAtOnce,
+                TermsBailTest::ofSeveralByRisingCases,
+                TermsBailTest::ofSeveralDaysTheEarlierFirst,
+                TermsBailTest::eachForfeitHasItsOwnTerm,
+                TermsBailTest::aForfeitedOneCannotBePaidBack,
+                TermsBailTest::anAmnestySparesForfeited,
+                TermsBailTest::anAmnestyUpToTheSum,
+                TermsBailTest::anAmnestyUpToTheDay,
+                TermsBailTest::anAmnestyPaysBack,
+                TermsBailTest::anAmnestyByRisingCases);
     }
 
     private static void holds(String words) {

@@ -3,30 +3,30 @@ public final class TermsRecordsAndPagesTest {
     private static final Check check = new Check("TermsRecordsAndPagesTest");
 
     public static void main(String[] args) {
-        aCaseIs0To999();
-        atMostOneRecordForACase();
-        aRecordHasTheDayOnWhichItWasPut();
-        pagesAreCountedFrom0();
-        lowerCasesAheadOfTheNextPage();
-        onAPageByRisingCasesFrom0();
-        aPageHasAtMost4();
-        aPageHasAtLeast1();
-        withoutRecordsNoPages();
-        putOnTheLastPageWhoseFirstIsLower();
-        putOnTheFirstPageIfNoneIsLower();
-        withoutPagesANewOne();
-        splitIfThatPageHas4();
-        lastTwoGoToANewPageBehind();
-        afterASplitThePageIsLookedForAnew();
-        pageHas1AndThereAreOthers();
-        howeverItIsTaken();
-        borrowsFromTheNextPageOf3Or4();
-        otherwiseFromThePageAheadOf3Or4();
-        otherwiseGoesToTheNextPage();
-        withoutNextPageGoesToThePageAhead();
-        aPageWithoutRecordsIsGone();
-        asManyPagesAsThereCanBe();
-        check.end();
+        check.run(
+                TermsRecordsAndPagesTest::aCaseIs0To999,
+                TermsRecordsAndPagesTest::atMostOneRecordForACase,
+                TermsRecordsAndPagesTest::aRecordHasTheDayOnWhichItWasPut,
+                TermsRecordsAndPagesTest::pagesAreCountedFrom0,
+                TermsRecordsAndPagesTest::lowerCasesAheadOfTheNextPage,
+                TermsRecordsAndPagesTest::onAPageByRisingCasesFrom0,
+                TermsRecordsAndPagesTest::aPageHasAtMost4,
+                TermsRecordsAndPagesTest::aPageHasAtLeast1,
+                TermsRecordsAndPagesTest::withoutRecordsNoPages,
+                TermsRecordsAndPagesTest::putOnTheLastPageWhoseFirstIsLower,
+                TermsRecordsAndPagesTest::putOnTheFirstPageIfNoneIsLower,
+                TermsRecordsAndPagesTest::withoutPagesANewOne,
+                TermsRecordsAndPagesTest::splitIfThatPageHas4,
+                TermsRecordsAndPagesTest::lastTwoGoToANewPageBehind,
+                TermsRecordsAndPagesTest::afterASplitThePageIsLookedForAnew,
+                TermsRecordsAndPagesTest::pageHas1AndThereAreOthers,
+                TermsRecordsAndPagesTest::howeverItIsTaken,
+                TermsRecordsAndPagesTest::borrowsFromTheNextPageOf3Or4,
+                TermsRecordsAndPagesTest::otherwiseFromThePageAheadOf3Or4,
+                TermsRecordsAndPagesTest::otherwiseGoesToTheNextPage,
+                TermsRecordsAndPagesTest::withoutNextPageGoesToThePageAhead,
+                TermsRecordsAndPagesTest::aPageWithoutRecordsIsGone,
+                TermsRecordsAndPagesTest::asManyPagesAsThereCanBe);
     }
 
     private static void holds(String words) {

@@ -3,22 +3,22 @@ public final class TermsSweepTest {
     private static final Check check = new Check("TermsSweepTest");
 
     public static void main(String[] args) {
-        theFirstPageAtTheBeginning();
-        alsoWithoutPages();
-        noPageBehindIt();
-        fourRecordsGoesOn();
-        otherwiseTheFirstOfTheNextPage();
-        theNextPageWithoutRecordsIsGone();
-        noPageBorrowsByAStep();
-        noPageIsJoinedByAStep();
-        recordsArePutAndTakenMeanwhile();
-        staysAtTheNumberWhenPut();
-        staysAtTheNumberWhenTaken();
-        overWhenNoPageHasTheNumber();
-        overHoweverTheRecordWasTaken();
-        overWhenNoPageIsLeft();
-        overOnlyWhenARecordWasTaken();
-        check.end();
+        check.run(
+                TermsSweepTest::theFirstPageAtTheBeginning,
+                TermsSweepTest::alsoWithoutPages,
+                TermsSweepTest::noPageBehindIt,
+                TermsSweepTest::fourRecordsGoesOn,
+                TermsSweepTest::otherwiseTheFirstOfTheNextPage,
+                TermsSweepTest::theNextPageWithoutRecordsIsGone,
+                TermsSweepTest::noPageBorrowsByAStep,
+                TermsSweepTest::noPageIsJoinedByAStep,
+                TermsSweepTest::recordsArePutAndTakenMeanwhile,
+                TermsSweepTest::staysAtTheNumberWhenPut,
+                TermsSweepTest::staysAtTheNumberWhenTaken,
+                TermsSweepTest::overWhenNoPageHasTheNumber,
+                TermsSweepTest::overHoweverTheRecordWasTaken,
+                TermsSweepTest::overWhenNoPageIsLeft,
+                TermsSweepTest::overOnlyWhenARecordWasTaken);
     }
 
     private static void holds(String words) {

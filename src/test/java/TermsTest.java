@@ -6,23 +6,24 @@ public final class TermsTest {
     private static final Check check = new Check("TermsTest");
 
     public static void main(String[] args) {
-        at512CallsPutsAndPayBacksStand();
-        at512CallsWalksStand();
-        at512CallsForfeitsStand();
-        at512CallsSweepsStand();
-        at512CallsRefusedOnesStand();
-        daysAreNumberedFrom0();
-        noSuchPageOrPlace();
-        anotherArgumentOutOfRange();
-        argumentAheadOfState();
-        argumentAheadOfStateIn80();
-        argumentAheadOfStateOnTheLastDay();
-        refusedRecordCallsChangeNothing();
-        refusedPageCallsChangeNothing();
-        refusedSweepAndWalkCallsChangeNothing();
-        refusedPutsChangeNothingIn80();
-        refusedPassChangesNothing();
-        check.end();
+        check.run(
+                TermsTest::at512CallsPutsAndPayBacksStand,
+                TermsTest::at512CallsWalksStand,
+                TermsTest::at512CallsForfeitsStand,
+                TermsTest::at512CallsSweepsStand,
+                TermsTest::at512CallsRefusedOnesStand,
+                TermsTest::daysAreNumberedFrom0,
+                TermsTest::noSuchPageOrPlace,
+                TermsTest::anotherArgumentOutOfRange,
+                TermsTest::theStateAsItDocuments,
+                TermsTest::argumentAheadOfState,
+                TermsTest::argumentAheadOfStateIn80,
+                TermsTest::argumentAheadOfStateOnTheLastDay,
+                TermsTest::refusedRecordCallsChangeNothing,
+                TermsTest::refusedPageCallsChangeNothing,
+                TermsTest::refusedSweepAndWalkCallsChangeNothing,
+                TermsTest::refusedPutsChangeNothingIn80,
+                TermsTest::refusedPassChangesNothing);
     }
 
     private static void holds512() {
@@ -98,7 +99,8 @@ public final class TermsTest {
     }
 
     private static void noSuchPageOrPlace() {
-        check.holds("Terms", "A method throws IndexOutOfBoundsException if there is no such page or place");
+        check.holds("Terms",
+                "A method throws IndexOutOfBoundsException if there is no such page or place");
         check.outOfBounds("size(0) without pages", PageBail::new, x -> x.size(0));
         check.outOfBounds("at(0, 0) without pages", PageBail::new, x -> x.at(0, 0));
         check.outOfBounds("size(1) of one page", () -> Look.laid("1 2"), x -> x.size(1));
@@ -115,6 +117,22 @@ public final class TermsTest {
         for (int i = 0; i < acts.length; i++) {
             check.illegalArgument("the call " + i + " of the row", PageBail::new, acts[i]);
         }
+    }
+
+    private static void theStateAsItDocuments() {
+        check.holds("Terms", "and IllegalStateException as it documents");
+        Check.Act[] acts = {x -> x.put(2, 1, 1), x -> x.payBack(3), x -> x.payBack(1),
+            x -> Look.forfeit(x, 3), x -> Look.forfeit(x, 1), x -> x.undo(3), x -> x.undo(2),
+            x -> x.pass(2), Look::sweep};
+        for (int i = 0; i < acts.length; i++) {
+            check.illegalState("the call " + i + " of the row", () -> {
+                PageBail x = onDay(4999);
+                Look.forfeit(x, 1);
+                x.sweep();
+                return x;
+            }, acts[i]);
+        }
+        check.illegalState("step(1) without a sweep", () -> onDay(4999), x -> x.step(1));
     }
 
     private static void holdsFirst() {

@@ -3,15 +3,15 @@ public final class TermsWalksTest {
     private static final Check check = new Check("TermsWalksTest");
 
     public static void main(String[] args) {
-        thereAreTheReaders0To3();
-        theLowestCaseAboveTheLast();
-        whateverHasHappenedToThat();
-        whateverHasHappenedToThePages();
-        atFirstAheadOfAll();
-        behindTheLastAheadOfAll();
-        notBehindTheLastBeforeItWasTold();
-        aWalkOver80();
-        check.end();
+        check.run(
+                TermsWalksTest::thereAreTheReaders0To3,
+                TermsWalksTest::theLowestCaseAboveTheLast,
+                TermsWalksTest::whateverHasHappenedToThat,
+                TermsWalksTest::whateverHasHappenedToThePages,
+                TermsWalksTest::atFirstAheadOfAll,
+                TermsWalksTest::behindTheLastAheadOfAll,
+                TermsWalksTest::notBehindTheLastBeforeItWasTold,
+                TermsWalksTest::aWalkOver80);
     }
 
     private static void holds(String words) {
